@@ -107,6 +107,11 @@ public final class ClosingTest {
         bonus.setRate(0, 10);
         bonus.closeMonth();
         check.same("14: bonus", reasonOf(bonus, 1, 0), 4);
+        bonus.bonus(0, 1, 30);
+        bonus.setRate(0, 11);
+        bonus.closeMonth();
+        check.same("14: bonus of a later month", reasonOf(bonus, 2, 1), 4);
+        check.same("14: not that of the month before", reasonOf(bonus, 2, 0), 5);
         PayrollRun back = closedOnce();
         back.salary(0, 0, 5);
         back.salary(0, 0, 1000);

@@ -77,14 +77,14 @@ public final class CommandsTest {
             "salary 1 2 123456", "salary 123456", "salary 12345", "salary -1 2 3", "salary x", "rate 0", "rate 0;",
             "rate 0 1 2", "rates 0 1", "setfloor 0 1", "closeclose", "close;salaryclose", "drop 0 0x", "move 0 0",
             "cap 0 1,", "fixed 1 2 3;share", "bracket 1 2;bracket 1", "newyear", "clearBrackets", "~close",
-            "days 1 2 3;days 1 2 3 ;", "salary 1 2 3;SALARY 1 2 3"};
+            "days 1 2 3;days 1 2 3 ;", "salary 1 2 3;SALARY 1 2 3", "xlose", "close;talary 1 2 3", "closf"};
         int[] want = {0, 0, 0, 0, 0, 0, 5, 6, 6, 5, 5,
             5, 0, 0, 0, 6, 6, 6, 6, 7, 6,
             7, 8, 9, 10, 10, 12, 12,
             16, 12, 12, 7, 7, 6, 6,
             8, 0, 0, 0, 6, 8, 8,
             7, 17, 21, 0, 0, 0,
-            21, 13};
+            21, 13, 0, 6, 0};
         check.same("the test's own lists", texts.length, want.length);
         for (int i = 0; i < texts.length && i < want.length; i++) {
             check.same("41: \"" + texts[i] + "\"", Check.execute(run, texts[i]), -100 - want[i]);

@@ -211,6 +211,16 @@ public final class GarnishmentsTest {
         check.same("14: the others left", run.amount(0, 0, 6), -498003);
         check.same("14: it wanted more", run.line(0, 0, 6, 2), 2);
         check.same("14: no payout", run.payout(0, 0), 0);
+        PayrollRun other = new PayrollRun();
+        other.salary(0, 0, 1);
+        other.setRate(0, 1);
+        other.bracket(0, 1);
+        other.share(0, 999, 9);
+        other.share(0, 1, 9);
+        other.share(0, 1000, 9);
+        other.closeMonth();
+        check.same("14: the last millionth", other.amount(0, 0, 6), -1);
+        check.same("14: it is something", other.line(0, 0, 6, 2), 2);
     }
 
     private static void paidOnesStayUntilNewYear() {
@@ -230,5 +240,11 @@ public final class GarnishmentsTest {
         Check.closeAll(run);
         run.newYear();
         check.same("15: in their order", order(run).substring(0, 18), "0:2:500:452 1:10:9");
+        run.fixed(1, 5, 5);
+        run.moveGarnishment(1, 2, 1);
+        Check.closeAll(run);
+        run.newYear();
+        check.same("15: without the one between", order(run).substring(0, 18), "0:2:500:428 1:10:9");
+        check.same("15: two", run.garnishment(1, -1, 0), 2);
     }
 }

@@ -125,7 +125,11 @@ public final class SlipTextTest {
         run.salary(0, 0, 100);
         run.salary(0, 11, 9999);
         run.days(0, 0, 30);
+        long preview = run.preview(0);
+        check.same("30: again", run.preview(0), preview);
+        check.same("33: the last month", run.projected(0), run.total(0, 7) + preview);
         run.closeMonth();
+        check.same("30: all lines", run.payout(0, 11), preview);
         check.same("25: all lines", run.lineCount(0, 11), 54);
         check.same("26: first correction", run.line(0, 11, 4, 1), 0);
         check.same("26: last correction", run.line(0, 11, 47, 1), 10);

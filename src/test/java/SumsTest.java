@@ -120,7 +120,10 @@ public final class SumsTest {
         check.same("39: month 6", run.corrections(1, 7), 64);
         check.same("39: owing is none", run.owed(1) > 0 ? run.closeMonth() : -1, 8);
         check.same("39: owed is no correction", run.corrections(1, 8), 0);
-        check.same("39: not closed", run.corrections(1, 9), PayrollRun.NONE);
+        run.bracket(0, 10);
+        run.closeMonth();
+        check.same("39: of the tax alone", run.corrections(1, 9), 447);
+        check.same("39: not closed", run.corrections(1, 10), PayrollRun.NONE);
         check.same("39: month 12", run.corrections(1, 12), PayrollRun.BAD);
         check.same("39: month -1", run.corrections(1, -1), PayrollRun.BAD);
         check.same("39: employee -1", run.corrections(-1, 0), PayrollRun.BAD);
