@@ -872,7 +872,7 @@ public final class PayrollRun {
         }
 
         boolean has(int position) {
-            return within(position, 0, count - 1);
+            return position >= 0 && position < count;
         }
 
         int add(int kind, int size, int debt) {
@@ -1388,11 +1388,11 @@ public final class PayrollRun {
         void writeLine(int kind, int index, int reason, long amount) {
             text.append(kindName(kind));
             text.append(' ');
-            text.append(index);
+            writeNumber(index);
             text.append(' ');
-            text.append(reason);
+            writeNumber(reason);
             text.append(' ');
-            writeAmount(amount);
+            writeNumber(amount);
             text.append(';');
         }
 
@@ -1404,11 +1404,12 @@ public final class PayrollRun {
             return within(i, 0, text.length() - 1) ? text.charAt(i) : NONE;
         }
 
-        private void writeAmount(long amount) {
-            if (amount < 0) {
+        /** Digit by digit, so that no text is made for a number. */
+        private void writeNumber(long number) {
+            if (number < 0) {
                 text.append('-');
             }
-            long left = Math.abs(amount);
+            long left = Math.abs(number);
             int first = DIGITS_MOST;
             do {
                 first--;
