@@ -18,6 +18,7 @@ public final class ClosingEdgesTest {
         reasonsWithoutAGrossLine();
         theLatestSettlement();
         aRuleSetSince();
+        clearingNothingSetsARule();
         rulesThatWereNotSet();
         fromTheFirstToTheLastMonth();
         theBalanceAtTheGuarantee();
@@ -265,6 +266,26 @@ public final class ClosingEdgesTest {
             run.bonus(0, 0, 400);
             run.closeMonth();
             check.same("14: not set since, way " + which, reasonOf(run, 3, 1), 6);
+        }
+    }
+
+    /** Month 1 lies across the cap of social, and there is no bracket that could be removed. */
+    private static void clearingNothingSetsARule() {
+        for (int which = 0; which < 3; which++) {
+            PayrollRun run = paid(1000);
+            run.setRate(0, 100);
+            run.setCap(0, 1500);
+            run.closeMonth();
+            run.closeMonth();
+            if (which > 0) {
+                check.same("9: none is removed", run.clearBrackets(), 0);
+            }
+            if (which > 1) {
+                run.undo();
+            }
+            run.bonus(0, 0, 300);
+            run.closeMonth();
+            check.same("14: only where it was called, and not undone", reasonOf(run, 2, 1), which == 1 ? 5 : 6);
         }
     }
 

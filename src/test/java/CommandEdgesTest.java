@@ -18,6 +18,7 @@ public final class CommandEdgesTest {
         aSingleBlank();
         eachWordWithItsNumbers();
         eachWordCutOff();
+        eachWordMisspelt();
         wordsThatAreNone();
         endsTooEarly();
         sixtyCharactersThatEndTooEarly();
@@ -48,7 +49,8 @@ public final class CommandEdgesTest {
     }
 
     private static void theFirstAndTheLastCharacter() {
-        int[] codes = {Integer.MIN_VALUE, -33, -1, 0, 9, 10, 31, 127, 128, 255, 256 + 32, 65536 + 32, Integer.MAX_VALUE};
+        int[] codes = {Integer.MIN_VALUE, -33, -1, 0, 9, 10, 31, 127, 128, 255, 256 + 32, 65536 + 32,
+            Integer.MAX_VALUE};
         PayrollRun run = new PayrollRun();
         for (int code : codes) {
             check.same("40: " + code, run.feed(code), BAD);
@@ -169,9 +171,23 @@ public final class CommandEdgesTest {
         }
     }
 
+    /** One letter of a word is another one. */
+    private static void eachWordMisspelt() {
+        for (int word = 0; word < WORDS.length; word++) {
+            String text = command(word, NUMBERS[word]);
+            for (int i = 0; i < WORDS[word].length(); i++) {
+                for (int step = -1; step < 2; step += 2) {
+                    char other = (char) (text.charAt(i) + step);
+                    String wrong = text.substring(0, i) + other + text.substring(i + 1);
+                    check.same("41: \"" + wrong + "\"", execute(wrong), -100);
+                }
+            }
+        }
+    }
+
     private static void wordsThatAreNone() {
-        String[] none = {"setRate 0 0", "setrate 0 0", "setcap 0 0", "setfloor 0 0", "clear", "clearbrackets", "newyear",
-            "closemonth", "undo", "save", "restore", "execute", "feed 32", "Salary 0 0 0", "SALARY 0 0 0",
+        String[] none = {"setRate 0 0", "setrate 0 0", "setcap 0 0", "setfloor 0 0", "clear", "clearbrackets",
+            "newyear", "closemonth", "undo", "save", "restore", "execute", "feed 32", "Salary 0 0 0", "SALARY 0 0 0",
             "dropgarnishment 0 0", "movegarnishment 0 0 0", "closeclose", "x", "z", "`", "{", "A", "0", "~"};
         for (String text : none) {
             check.same("41: \"" + text + "\"", execute(text), -100);
@@ -213,8 +229,8 @@ public final class CommandEdgesTest {
         check.same("41: one", Check.execute(run, "close"), 1);
         check.same("41: ten", Check.execute(run, "close;close;close;close;close;close;close;close;close;close"), 10);
         check.same("16: eleven are closed", run.closed(), 11);
-        check.same("41: seven with numbers", Check.execute(run, "cap 0 0;cap 0 1;cap 0 2;cap 0 3;cap 0 4;cap 0 5;cap 0 6"),
-            7);
+        String seven = "cap 0 0;cap 0 1;cap 0 2;cap 0 3;cap 0 4;cap 0 5;cap 0 6";
+        check.same("41: seven with numbers", Check.execute(run, seven), 7);
         check.same("18: the last of them", run.setting(2, 0), 6);
     }
 
@@ -292,7 +308,7 @@ public final class CommandEdgesTest {
         }
         check.same("41: a sixth bracket", Check.execute(run, "bracket 4 1;bracket 5 1"), -212);
         check.same("8: four are left", run.setting(5, 0), 4);
-        check.same("41: a month after the last one", Check.execute(run, "close;close;close;close;close;close;close"), 7);
+        check.same("41: seven months", Check.execute(run, "close;close;close;close;close;close;close"), 7);
         check.same("41: five are left", Check.execute(run, "close;close;close;close;close;close"), -230);
         check.same("16: seven are closed", run.closed(), 7);
     }

@@ -13,6 +13,7 @@ public final class GarnishmentEdgesTest {
         droppingTheFirstTheLastAndTheOnlyOne();
         movingToTheSamePosition();
         movingFromEndToEnd();
+        movedWithAllItsParts();
         positionMinusOne();
         theRestFromTheDebtToNothing();
         paidOnesKeepTheirPosition();
@@ -22,6 +23,7 @@ public final class GarnishmentEdgesTest {
         nothingAboveTheFloor();
         shareOfAThousand();
         roundedDown();
+        theLastMillionth();
         theReasonsInTheirOrder();
         newYearTakesThePaidOnes();
         check.end();
@@ -49,6 +51,18 @@ public final class GarnishmentEdgesTest {
         StringBuilder text = new StringBuilder();
         for (int i = 0; i < run.garnishment(0, -1, 0); i++) {
             text.append(run.garnishment(0, i, 1)).append(' ');
+        }
+        return text.toString();
+    }
+
+    /** All parts of all garnishments of employee 0. */
+    private static String whole(PayrollRun run) {
+        StringBuilder text = new StringBuilder();
+        for (int i = 0; i < run.garnishment(0, -1, 0); i++) {
+            for (int what = 0; what < 3; what++) {
+                text.append(run.garnishment(0, i, what)).append(' ');
+            }
+            text.append(run.rest(0, i)).append(';');
         }
         return text.toString();
     }
@@ -161,6 +175,28 @@ public final class GarnishmentEdgesTest {
         check.same("13: the others stay in order again", order(run), "2 1 3 ");
         check.same("13: the middle one last", run.moveGarnishment(0, 1, 2), 1);
         check.same("13: only two of them change", order(run), "2 3 1 ");
+    }
+
+    private static void movedWithAllItsParts() {
+        PayrollRun run = paid(100);
+        run.share(0, 100, 20);
+        run.fixed(0, 3, 40);
+        run.fixed(0, 5, 60);
+        run.closeMonth();
+        String share = "1 100 20 10000000;";
+        String three = "0 3 40 37000000;";
+        String five = "0 5 60 55000000;";
+        check.same("19: each has its parts", whole(run), share + three + five);
+        run.moveGarnishment(0, 0, 2);
+        check.same("13: they go with it", whole(run), three + five + share);
+        run.moveGarnishment(0, 1, 0);
+        check.same("13: and with those that change places", whole(run), five + three + share);
+        run.dropGarnishment(0, 0);
+        check.same("12: and with those behind a removed one", whole(run), three + share);
+        run.undo();
+        run.undo();
+        run.undo();
+        check.same("44: and back again", whole(run), share + three + five);
     }
 
     private static void positionMinusOne() {
@@ -309,6 +345,39 @@ public final class GarnishmentEdgesTest {
                 "0 1 " + (c[1] == 0 ? "0;" : "-" + c[1] + ";"));
             check.same("20: the rest of the unit", run.rest(0, 0), UNIT - c[1]);
         }
+    }
+
+    /** 7 less a thousandth of it, less 857 thousandths of what is left, are 999999 millionths. */
+    private static void theLastMillionth() {
+        PayrollRun run = paid(7);
+        run.setRate(0, 1);
+        run.bracket(0, 857);
+        run.share(0, 1000, 1);
+        run.closeMonth();
+        check.same("14: all but one", garnishes(run, 0), "0 1 -999999;");
+        check.same("20: a rest of one", run.rest(0, 0), 1);
+        run.closeMonth();
+        check.same("14: it is a rest of its debt", garnishes(run, 1), "0 4 -1;");
+        run = paid(7);
+        run.setRate(0, 1);
+        run.bracket(0, 857);
+        run.share(0, 1000, 1);
+        for (int m = 0; m < 11; m++) {
+            run.days(0, m, 0);
+        }
+        Check.closeAll(run);
+        run.newYear();
+        check.same("15: it stays in another year", run.garnishment(0, -1, 0), 1);
+        check.same("15: with its rest", run.rest(0, 0), 1);
+        run = paid(1);
+        run.setRate(0, 499);
+        run.setRate(1, 499);
+        run.bracket(0, 999);
+        run.share(0, 500, 1);
+        run.fixed(0, 1, 1);
+        run.fixed(0, 1, 1);
+        run.closeMonth();
+        check.same("14: one is something", garnishes(run, 0), "0 1 -1;1 2 -1;2 3 0;");
     }
 
     private static void theReasonsInTheirOrder() {

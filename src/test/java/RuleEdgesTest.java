@@ -171,17 +171,20 @@ public final class RuleEdgesTest {
         check.same("9: none", run.clearBrackets(), 0);
         check.same("9: it is a change", run.undo(), 0);
         for (int i = 0; i < 5; i++) {
-            run.bracket(10 * i, 1);
+            run.bracket(10 * i + 3, 7 - i);
         }
         check.same("9: five", run.clearBrackets(), 5);
         check.same("9: none is left", run.setting(5, 0), 0);
         check.same("9: no threshold is left", run.setting(3, 0), BAD);
         check.same("9: no rate is left", run.setting(4, 4), BAD);
-        check.same("9: a lesser threshold is the first", run.bracket(0, 3), 1);
+        check.same("9: a lesser threshold is the first", run.bracket(0, 1), 1);
         run.undo();
         run.undo();
-        check.same("9: five again", run.setting(5, 0), 5);
-        check.same("9: the fifth again", run.setting(3, 4), 40);
+        check.same("44: five again", run.setting(5, 0), 5);
+        for (int i = 0; i < 5; i++) {
+            check.same("44: threshold " + i, run.setting(3, i), 10 * i + 3);
+            check.same("44: rate " + i, run.setting(4, i), 7 - i);
+        }
     }
 
     private static void theThresholdItself() {

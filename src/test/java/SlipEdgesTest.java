@@ -8,6 +8,7 @@ public final class SlipEdgesTest {
     public static void main(String[] args) {
         fiveLinesAtLeast();
         fiftyFourLinesAtMost();
+        previewOfTheLongest();
         theFirstAndTheLastLine();
         noSuchLine();
         badComesBeforeNone();
@@ -43,8 +44,8 @@ public final class SlipEdgesTest {
         }
     }
 
-    /** Eleven months with something owed; then each kind of each of them is corrected, and three are garnished. */
-    private static PayrollRun longest() {
+    /** Eleven months are closed with something owed; then all of them are to be corrected, and three garnished. */
+    private static PayrollRun beforeTheLongest() {
         PayrollRun run = paid(1000);
         run.setFloor(0, 100);
         run.setRate(0, 10);
@@ -66,8 +67,25 @@ public final class SlipEdgesTest {
         run.fixed(0, 1, 1);
         run.share(0, 1, 1);
         run.fixed(0, 1, 1);
+        return run;
+    }
+
+    private static PayrollRun longest() {
+        PayrollRun run = beforeTheLongest();
         run.closeMonth();
         return run;
+    }
+
+    private static void previewOfTheLongest() {
+        PayrollRun run = beforeTheLongest();
+        long paid = run.total(0, 7);
+        long preview = run.preview(0);
+        check.same("30: again the same", run.preview(0), preview);
+        check.same("31: a unit more is less to owe", run.marginal(0), 0);
+        check.same("33: with it", run.projected(0), paid + preview);
+        run.closeMonth();
+        check.same("30: all lines", run.lineCount(0, 11), 54);
+        check.same("30: their payout", run.payout(0, 11), preview);
     }
 
     private static void fiftyFourLinesAtMost() {
@@ -167,7 +185,8 @@ public final class SlipEdgesTest {
         for (int i = length - 150; i < length; i++) {
             text += (char) run.letter(0, 11, i);
         }
-        check.same("28: owed, garnish, carry and pay", text.substring(text.indexOf("owed")).replaceAll("[0-9]{7,}", "N"),
+        String last = text.substring(text.indexOf("owed")).replaceAll("[0-9]{7,}", "N");
+        check.same("28: owed, garnish, carry and pay", last,
             "owed 0 0 -N;garnish 0 3 0;garnish 1 1 0;garnish 2 3 0;carry 0 0 N;pay 0 0 N;");
     }
 

@@ -20,6 +20,7 @@ public final class SumEdgesTest {
         lowestByAMillionth();
         noCorrections();
         eachMonthAsABit();
+        eachKindAlone();
         onlyKindsZeroToThree();
         check.end();
     }
@@ -234,6 +235,20 @@ public final class SumEdgesTest {
         run.bonus(0, 11, 1);
         run.closeMonth();
         check.same("39: the first and the last but its own one", run.corrections(0, 11), 1025);
+    }
+
+    private static void eachKindAlone() {
+        for (int kind = 0; kind < 4; kind++) {
+            PayrollRun run = paid(100);
+            run.closeMonth();
+            run.closeMonth();
+            int done = kind == 0 ? run.bonus(0, 0, 1) : kind == 1 ? run.setRate(0, 1) : kind == 2 ? run.setRate(1, 1)
+                : run.bracket(0, 1);
+            check.same("39: set", done >= 0 ? 1 : 0, 1);
+            run.closeMonth();
+            check.same("26: a line of kind " + kind, run.line(0, 2, 4, 0), kind);
+            check.same("39: a line of kind " + kind + " alone", run.corrections(0, 2), kind == 0 ? 1 : 3);
+        }
     }
 
     private static void onlyKindsZeroToThree() {
